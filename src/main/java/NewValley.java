@@ -204,7 +204,7 @@ public final class NewValley {
 
     public int best(int what) {
         boolean ofHousehold = what >= BY_HOUSEHOLD && households.has(what - BY_HOUSEHOLD);
-        if (households.count > ways.sites || what != 0 && !ofHousehold) {
+        if (households.count > ways.sites || (what != 0 && !ofHousehold)) {
             return NONE;
         }
         ways.find(households.count);
@@ -1063,24 +1063,28 @@ public final class NewValley {
             }
         }
 
-        /** Tries the SITES for HOUSEHOLD h, the lesser first, and goes on where a greater BOND may yet come of it. */
+        /** Tries the SITES for HOUSEHOLD h, the lesser first. */
         private void placeFrom(int h, int bond) {
             if (h >= households) {
                 keep(bond);
                 return;
             }
             for (int s = 0; s < sites; s++) {
-                if (taken[s]) {
-                    continue;
+                if (!taken[s]) {
+                    placeAt(h, s, bond);
                 }
-                int grown = bond + pull[h][h * SITES + s];
-                taken[s] = true;
-                chosen[h] = s;
-                if (grown + drawBehind(h, s) > bestBond) {
-                    placeFrom(h + 1, grown);
-                }
-                taken[s] = false;
             }
+        }
+
+        /** Goes on to the next HOUSEHOLD only if a greater BOND may yet come of it. */
+        private void placeAt(int h, int s, int bond) {
+            int grown = bond + pull[h][h * SITES + s];
+            chosen[h] = s;
+            taken[s] = true;
+            if (grown + drawBehind(h, s) > bestBond) {
+                placeFrom(h + 1, grown);
+            }
+            taken[s] = false;
         }
 
         /** Draws those behind h to it at SITE s; the answer is what they can add to the BOND at most. */

@@ -402,6 +402,7 @@ public final class PromisesTest {
             full.append("+1");
         }
         accepts(full + " when 1=1;", 1);
+        rejects(")".repeat(400), 1, 0);
         rejects(full + " when 1=1 ", 1, 400);
     }
 
@@ -481,6 +482,11 @@ public final class PromisesTest {
         gives("9999*9999*22", 0);
         gives("9999*9999*43", 9999);
         gives("9999*9999*43/1000", 4172);
+        String deepest = "1+2*(".repeat(8) + "3" + ")".repeat(8);
+        gives(deepest, 1023);
+        isSo("1=1 and 1023=" + deepest, true);
+        isSo("1=2 and 1023=" + deepest, false);
+        isSo("1=1 and 1022=" + deepest, false);
         isSo("1<2", true);
         isSo("2<2", false);
         isSo("2=2", true);
