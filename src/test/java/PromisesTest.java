@@ -1,9 +1,5 @@
 /** Each promise of the document in turn: ordinary inputs, the edges that it names, and wrong inputs. */
-public final class PromisesTest {
-    private static final int LEAST = Integer.MIN_VALUE;
-    private static final int MOST = Integer.MAX_VALUE;
-    private static String promise = "";
-
+public final class PromisesTest extends Checks {
     public static void main(String[] args) {
         newObject();
         water();
@@ -33,26 +29,6 @@ public final class PromisesTest {
         Checks.finish();
     }
 
-    private static void due(String what, long got, long want) {
-        Checks.due(promise + ": " + what, got, want);
-    }
-
-    private static void yes(String what, boolean got) {
-        Checks.due(promise + ": " + what, got, true);
-    }
-
-    private static void no(String what, boolean got) {
-        Checks.due(promise + ": " + what, got, false);
-    }
-
-    private static NewValley withHouseholds(int n) {
-        NewValley x = new NewValley();
-        for (int h = 0; h < n; h++) {
-            x.household(0, 1, 0, 0, true);
-        }
-        return x;
-    }
-
     private static NewValley withRules(String text) {
         NewValley x = new NewValley();
         Checks.rules(x, text);
@@ -60,7 +36,7 @@ public final class PromisesTest {
     }
 
     private static void newObject() {
-        promise = "1";
+        about("Promise 1");
         NewValley x = new NewValley();
         due("NONE", NewValley.NONE, -1);
         for (int what = 0; what <= 6; what++) {
@@ -80,7 +56,7 @@ public final class PromisesTest {
     }
 
     private static void water() {
-        promise = "2";
+        about("Promise 2");
         NewValley x = new NewValley();
         yes("month 0", x.water(0, 0));
         yes("month 35, level 99", x.water(35, 99));
@@ -103,7 +79,7 @@ public final class PromisesTest {
     }
 
     private static void village() {
-        promise = "3";
+        about("Promise 3");
         NewValley x = new NewValley();
         x.water(4, 60);
         yes("height 60", x.village(3, 60));
@@ -125,7 +101,7 @@ public final class PromisesTest {
     }
 
     private static void drowned() {
-        promise = "4";
+        about("Promise 4");
         NewValley x = new NewValley();
         x.water(10, 50);
         x.water(20, 99);
@@ -140,7 +116,7 @@ public final class PromisesTest {
     }
 
     private static void household() {
-        promise = "5";
+        about("Promise 5");
         NewValley x = new NewValley();
         int[][] cannot = {{-1, 1, 0, 0}, {4, 1, 0, 0}, {0, 0, 0, 0}, {0, 21, 0, 0}, {0, 1, -1, 0}, {0, 1, 100, 0},
             {0, 1, 0, -1}, {0, 1, 0, 100}, {MOST, 1, 0, 0}, {0, MOST, 0, 0}, {0, 1, LEAST, 0}, {0, 1, 0, LEAST}};
@@ -159,7 +135,7 @@ public final class PromisesTest {
     }
 
     private static void papers() {
-        promise = "6";
+        about("Promise 6");
         NewValley x = new NewValley();
         no("nobody", x.papers(0));
         x.household(0, 1, 0, 0, false);
@@ -174,7 +150,7 @@ public final class PromisesTest {
     }
 
     private static void tie() {
-        promise = "7";
+        about("Promise 7");
         NewValley x = withHouseholds(3);
         for (int s = 0; s < 3; s++) {
             x.site(0, 0);
@@ -197,7 +173,7 @@ public final class PromisesTest {
     }
 
     private static void site() {
-        promise = "8";
+        about("Promise 8");
         NewValley x = new NewValley();
         for (int at : new int[] {-1, 21, LEAST, MOST}) {
             due("x " + at, x.site(at, 0), -1);
@@ -214,7 +190,7 @@ public final class PromisesTest {
     }
 
     private static void field() {
-        promise = "9";
+        about("Promise 9");
         NewValley x = new NewValley();
         for (int worth : new int[] {0, -1, 1000, LEAST, MOST}) {
             due("worth " + worth, x.field(worth), -1);
@@ -228,7 +204,7 @@ public final class PromisesTest {
     }
 
     private static void builders() {
-        promise = "10";
+        about("Promise 10");
         NewValley x = withHouseholds(8);
         yes("all at once", x.builders(35, 8));
         yes("none", x.builders(0, 0));
@@ -247,7 +223,7 @@ public final class PromisesTest {
     }
 
     private static void feed() {
-        promise = "11";
+        about("Promise 11");
         NewValley x = new NewValley();
         for (int i = 1; i <= 20; i++) {
             due("length", x.feed(0, 0, 0, 0, 0), 20 * i);
@@ -264,7 +240,7 @@ public final class PromisesTest {
     }
 
     private static void end() {
-        promise = "12";
+        about("Promise 12");
         NewValley x = new NewValley();
         yes("of nothing", x.end(0));
         no("more than there is", x.end(1));
@@ -281,7 +257,7 @@ public final class PromisesTest {
     }
 
     private static void rules() {
-        promise = "13";
+        about("Promise 13");
         NewValley x = withHouseholds(1);
         due("one", Checks.rules(x, "give 5 when 1 = 1;"), 1);
         due("due", x.of(0, 5), 5);
@@ -312,7 +288,7 @@ public final class PromisesTest {
     }
 
     private static void tokens() {
-        promise = "13, tokens";
+        about("Promise 13, tokens");
         accepts("give 1when 1=1and 2>1;give(land)when(1)=1;", 2);
         accepts("\ngive\n1\nwhen\n1\n=\n1\n;\n", 1);
         accepts("give 0000+9999*0/0001 when papers<trees;", 1);
@@ -336,7 +312,7 @@ public final class PromisesTest {
     }
 
     private static void faults() {
-        promise = "14";
+        about("Promise 14");
         NewValley x = new NewValley();
         for (int what : new int[] {-1, 2, LEAST, MOST}) {
             due("fault(" + what + ")", x.fault(what), -1);
@@ -382,7 +358,7 @@ public final class PromisesTest {
     }
 
     private static void faultsOfLimits() {
-        promise = "14, limits";
+        about("Promise 14, limits");
         String rule = "give 1 when 1=1;";
         accepts(rule.repeat(10), 10);
         accepts(rule.repeat(10) + "  ", 10);
@@ -407,7 +383,7 @@ public final class PromisesTest {
     }
 
     private static void look() {
-        promise = "15";
+        about("Promise 15");
         NewValley x = withHouseholds(3);
         x.site(1, 1);
         x.site(1, 1);
@@ -427,7 +403,7 @@ public final class PromisesTest {
     }
 
     private static void of() {
-        promise = "16";
+        about("Promise 16");
         NewValley x = new NewValley();
         x.household(2, 3, 4, 5, true);
         x.household(1, 20, 99, 98, false);
@@ -462,7 +438,7 @@ public final class PromisesTest {
     }
 
     private static void dues() {
-        promise = "16, due";
+        about("Promise 16, due");
         gives("people*1000+land*10+trees*5+papers", 7176);
         gives("20-3-4", 13);
         gives("20-(3-4)", 21);
@@ -511,7 +487,7 @@ public final class PromisesTest {
     }
 
     private static void best() {
-        promise = "17";
+        about("Promise 17");
         NewValley x = new NewValley();
         due("without households", x.best(0), 0);
         due("no such household", x.best(10), -1);
@@ -540,7 +516,7 @@ public final class PromisesTest {
     }
 
     private static void bestFirstOfSeveral() {
-        promise = "17, order";
+        about("Promise 17, order");
         NewValley x = withHouseholds(8);
         for (int s = 0; s < 8; s++) {
             x.site(3, 3);
@@ -569,17 +545,6 @@ public final class PromisesTest {
         due("of all ways the first", y.best(11), 1);
     }
 
-    private static NewValley withDues(int... dues) {
-        StringBuilder text = new StringBuilder();
-        NewValley x = new NewValley();
-        for (int h = 0; h < dues.length; h++) {
-            x.household(0, h + 1, 0, 0, true);
-            text.append("give ").append(dues[h]).append(" when people=").append(h + 1).append(";");
-        }
-        Checks.rules(x, text.toString());
-        return x;
-    }
-
     private static void isParted(NewValley x, int served, int worth, int... sets) {
         due("how many", x.part(0), Integer.bitCount(served));
         due("worth", x.part(1), worth);
@@ -593,7 +558,7 @@ public final class PromisesTest {
     }
 
     private static void part() {
-        promise = "18";
+        about("Promise 18");
         isParted(new NewValley(), 0, 0);
         NewValley x = withDues(5, 0, 3);
         isParted(x, 2, 0, 0, 0, 0);
@@ -608,7 +573,7 @@ public final class PromisesTest {
     }
 
     private static void partOrder() {
-        promise = "18, order";
+        about("Promise 18, order");
         NewValley most = withDues(10, 5, 5);
         most.field(5);
         most.field(5);
@@ -662,7 +627,7 @@ public final class PromisesTest {
     }
 
     private static void months() {
-        promise = "19";
+        about("Promise 19");
         NewValley x = new NewValley();
         for (int n : new int[] {0, -1, 13, LEAST, MOST}) {
             due("months(" + n + ")", x.months(n), -1);
@@ -678,7 +643,7 @@ public final class PromisesTest {
     }
 
     private static void building() {
-        promise = "19, houses";
+        about("Promise 19, houses");
         NewValley x = withHouseholds(2);
         x.household(1, 1, 0, 0, true);
         x.water(2, 50);

@@ -1,16 +1,20 @@
 import java.util.Random;
 
 /** Random runs of calls on the program and on the plain model: every answer must be the same. */
-public final class RandomRunsTest {
-    private static final int RUNS = 240;
-    private static final int CALLS = 512;
+public final class RandomRunsTest extends Checks {
+    private static final int RUNS = 360;
+    /** Calls of the last questions, of a change with all that it feeds, and what is left for the rest of a run. */
+    private static final int LAST_CALLS = 150;
+    private static final int CALLS_OF_A_CHANGE = 30;
+    private static final int FREE_CALLS = 512 - LAST_CALLS - CALLS_OF_A_CHANGE;
+    private static final int LONGEST_TEXT = 440;
     private static final String[] TOKENS = {"give ", "when ", " and ", "people", "land", "trees", "papers", "(", ")", "(",
         "+", "-", "*", "/", "<", "=", ">", ";", "0", "1", "7", "00", "0010", "9999", "12345", " ", "\n", "\t", "Land", "x", "\u00e9"};
 
     private final Random random;
     private final NewValley x = new NewValley();
     private final PlainValley plain = new PlainValley();
-    private final String name;
+    private int calls = 0;
     /** How much is there at most, so that some runs stay small enough for all PARTINGS to be tried. */
     private final int mostFields;
     private final int mostHouseholds;
@@ -19,7 +23,7 @@ public final class RandomRunsTest {
 
     private RandomRunsTest(int seed) {
         random = new Random(seed);
-        name = "run " + seed + ": ";
+        about("run " + seed);
         mostFields = seed % 8 == 0 ? 10 : random.nextInt(7);
         mostHouseholds = seed % 8 == 0 ? 6 + random.nextInt(3) : random.nextInt(6);
     }
@@ -32,17 +36,28 @@ public final class RandomRunsTest {
     }
 
     private void run() {
-        for (int call = 0; call < CALLS; call += 6) {
-            for (int i = 0; i < 3; i++) {
+        while (calls < FREE_CALLS) {
+            if (random.nextBoolean()) {
                 change();
-            }
-            for (int i = 0; i < 3; i++) {
+            } else {
                 ask();
             }
         }
         for (int h = -1; h < 9; h++) {
             askAllOf(h);
         }
+        askAll();
+        isWithinCalls(calls);
+    }
+
+    /** Every call on the object comes by here once. */
+    private void same(String call, long got, long want) {
+        calls++;
+        due("call " + calls + ": " + call, got, want);
+    }
+
+    private void same(String call, boolean got, boolean want) {
+        same(call, got ? 1 : 0, want ? 1 : 0);
     }
 
     private int mostly(int least, int most) {
@@ -70,11 +85,11 @@ public final class RandomRunsTest {
     }
 
     private void water(int m, int level) {
-        Checks.due(name + "water(" + m + ", " + level + ")", x.water(m, level), plain.water(m, level));
+        same("water(" + m + ", " + level + ")", x.water(m, level), plain.water(m, level));
     }
 
     private void village(int v, int height) {
-        Checks.due(name + "village(" + v + ", " + height + ")", x.village(v, height), plain.village(v, height));
+        same("village(" + v + ", " + height + ")", x.village(v, height), plain.village(v, height));
     }
 
     private void household() {
@@ -87,20 +102,20 @@ public final class RandomRunsTest {
             return;
         }
         int want = plain.household(v, people, land, trees, papers);
-        Checks.due(name + "household", x.household(v, people, land, trees, papers), want);
+        same("household", x.household(v, people, land, trees, papers), want);
         households += want >= 0 ? 1 : 0;
     }
 
     private void papers(int h) {
-        Checks.due(name + "papers(" + h + ")", x.papers(h), plain.papers(h));
+        same("papers(" + h + ")", x.papers(h), plain.papers(h));
     }
 
     private void tie(int a, int b, int v) {
-        Checks.due(name + "tie(" + a + ", " + b + ", " + v + ")", x.tie(a, b, v), plain.tie(a, b, v));
+        same("tie(" + a + ", " + b + ", " + v + ")", x.tie(a, b, v), plain.tie(a, b, v));
     }
 
     private void site(int sx, int sy) {
-        Checks.due(name + "site(" + sx + ", " + sy + ")", x.site(sx, sy), plain.site(sx, sy));
+        same("site(" + sx + ", " + sy + ")", x.site(sx, sy), plain.site(sx, sy));
     }
 
     private void field() {
@@ -109,17 +124,17 @@ public final class RandomRunsTest {
         }
         int worth = random.nextBoolean() ? mostly(1, 999) : mostly(1, 12);
         int want = plain.field(worth);
-        Checks.due(name + "field(" + worth + ")", x.field(worth), want);
+        same("field(" + worth + ")", x.field(worth), want);
         fields += want >= 0 ? 1 : 0;
     }
 
     private void builders(int m, int n) {
-        Checks.due(name + "builders(" + m + ", " + n + ")", x.builders(m, n), plain.builders(m, n));
+        same("builders(" + m + ", " + n + ")", x.builders(m, n), plain.builders(m, n));
     }
 
     private void months() {
         int n = random.nextInt(4) == 0 ? mostly(1, 12) : mostly(1, 2);
-        Checks.due(name + "months(" + n + ")", x.months(n), plain.months(n));
+        same("months(" + n + ")", x.months(n), plain.months(n));
     }
 
     private void rules() {
@@ -127,20 +142,21 @@ public final class RandomRunsTest {
         if (random.nextInt(20) == 0) {
             text = text + text + text + text;
         }
+        text = text.substring(0, Math.min(text.length(), LONGEST_TEXT));
         for (int i = 0; 4 * i < text.length(); i += 5) {
-            int a = Checks.number(text, i);
-            int b = Checks.number(text, i + 1);
-            int c = Checks.number(text, i + 2);
-            int d = Checks.number(text, i + 3);
-            int e = Checks.number(text, i + 4);
-            Checks.due(name + "feed", x.feed(a, b, c, d, e), plain.feed(a, b, c, d, e));
+            int a = number(text, i);
+            int b = number(text, i + 1);
+            int c = number(text, i + 2);
+            int d = number(text, i + 3);
+            int e = number(text, i + 4);
+            same("feed", x.feed(a, b, c, d, e), plain.feed(a, b, c, d, e));
         }
         int n = random.nextInt(10) == 0 ? mostly(0, 400) : text.length();
-        Checks.due(name + "end(" + n + ")", x.end(n), plain.end(n));
-        String call = name + "rules() of '" + text + "'";
-        Checks.due(call, x.rules(), plain.rules());
+        same("end(" + n + ")", x.end(n), plain.end(n));
+        String call = "rules() of '" + text + "'";
+        same(call, x.rules(), plain.rules());
         for (int what = -1; what < 3; what++) {
-            Checks.due(call + " fault(" + what + ")", x.fault(what), plain.fault(what));
+            same(call + " fault(" + what + ")", x.fault(what), plain.fault(what));
         }
     }
 
@@ -207,27 +223,27 @@ public final class RandomRunsTest {
         switch (random.nextInt(6)) {
             case 0 -> {
                 int v = mostly(0, 3);
-                Checks.due(name + "drowned(" + v + ")", x.drowned(v), plain.drowned(v));
+                same("drowned(" + v + ")", x.drowned(v), plain.drowned(v));
             }
             case 1 -> {
                 int what = mostly(0, 6);
-                Checks.due(name + "look(" + what + ")", x.look(what), plain.look(what));
+                same("look(" + what + ")", x.look(what), plain.look(what));
             }
             case 2, 3 -> {
                 int h = mostly(0, Math.max(households, 1));
                 int what = mostly(0, 8);
-                Checks.due(name + "of(" + h + ", " + what + ")", x.of(h, what), plain.of(h, what));
+                same("of(" + h + ", " + what + ")", x.of(h, what), plain.of(h, what));
             }
             case 4 -> {
                 int what = random.nextInt(3) == 0 ? mostly(0, 1) : mostly(10, 17);
                 if (households < 7 || random.nextInt(8) == 0) {
-                    Checks.due(name + "best(" + what + ")", x.best(what), plain.best(what));
+                    same("best(" + what + ")", x.best(what), plain.best(what));
                 }
             }
             default -> {
                 int what = random.nextInt(3) == 0 ? mostly(0, 3) : mostly(10, 17);
                 if (fields < 9 || random.nextInt(8) == 0) {
-                    Checks.due(name + "part(" + what + ")", x.part(what), plain.part(what));
+                    same("part(" + what + ")", x.part(what), plain.part(what));
                 }
             }
         }
@@ -235,14 +251,19 @@ public final class RandomRunsTest {
 
     private void askAllOf(int h) {
         for (int what = -1; what < 10; what++) {
-            Checks.due(name + "of(" + h + ", " + what + ")", x.of(h, what), plain.of(h, what));
-            Checks.due(name + "look(" + what + ")", x.look(what), plain.look(what));
+            same("of(" + h + ", " + what + ")", x.of(h, what), plain.of(h, what));
         }
-        Checks.due(name + "best(" + (10 + h) + ")", x.best(10 + h), plain.best(10 + h));
-        Checks.due(name + "part(" + (10 + h) + ")", x.part(10 + h), plain.part(10 + h));
-        Checks.due(name + "best(0)", x.best(0), plain.best(0));
+        same("best(" + (10 + h) + ")", x.best(10 + h), plain.best(10 + h));
+        same("part(" + (10 + h) + ")", x.part(10 + h), plain.part(10 + h));
+    }
+
+    private void askAll() {
+        for (int what = -1; what < 8; what++) {
+            same("look(" + what + ")", x.look(what), plain.look(what));
+        }
+        same("best(0)", x.best(0), plain.best(0));
         for (int what = 0; what < 3; what++) {
-            Checks.due(name + "part(" + what + ")", x.part(what), plain.part(what));
+            same("part(" + what + ")", x.part(what), plain.part(what));
         }
     }
 }
