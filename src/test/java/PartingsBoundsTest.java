@@ -10,6 +10,7 @@ public final class PartingsBoundsTest extends Checks {
         aFieldGoesToOneAlone();
         withDue0AlwaysServed();
         servesTheMost();
+        dueOf1();
         givesTheLeast();
         givesNothingThatIsNotNeeded();
         servesHousehold0AheadOfNot();
@@ -140,6 +141,15 @@ public final class PartingsBoundsTest extends Checks {
         isParted(withFields(withHouseholds(8), 1), 255, 0, 0, 0, 0, 0, 0, 0, 0, 0);
     }
 
+    private static void dueOf1() {
+        about("those with DUE 0 are always SERVED, with nothing: those with DUE 1 are not");
+        isParted(withFields(withDues(1), 1), 1, 1, 1);
+        isParted(withDues(1), 0, 0, 0);
+        isParted(withFields(withDues(2, 1), 1, 1), 2, 1, 0, 1);
+        isParted(withFields(withDues(3, 2, 1), 1, 2), 6, 3, 0, 2, 1);
+        isParted(withFields(withDues(1, 1), 1), 1, 1, 1, 0);
+    }
+
     private static void servesTheMost() {
         about("BEST: it SERVES the most HOUSEHOLDS");
         isParted(withFields(withDues(10, 5, 5), 5, 5), 6, 10, 0, 1, 2);
@@ -155,6 +165,8 @@ public final class PartingsBoundsTest extends Checks {
         isParted(withFields(withDues(5), 6, 3, 2), 1, 5, 6);
         isParted(withFields(withDues(5, 4), 6, 4, 5), 3, 9, 4, 2);
         isParted(withFields(withDues(7, 7, 6), 6, 999), 5, 1005, 2, 0, 1);
+        isParted(withFields(withDues(6, 9999, 5), 5, 1), 4, 5, 0, 0, 1);
+        isParted(withFields(withDues(6, 9999, 9999, 9999, 9999, 9999, 9999, 5), 5, 1), 128, 5, 0, 0, 0, 0, 0, 0, 0, 1);
     }
 
     private static void givesNothingThatIsNotNeeded() {
@@ -302,5 +314,9 @@ public final class PartingsBoundsTest extends Checks {
         isParted(x, 3, 13, 1, 2);
         x.rules();
         isParted(x, 3, 0, 0, 0);
+        NewValley dearer = withFields(withDues(6, 5), 5, 1);
+        isParted(dearer, 2, 5, 0, 1);
+        rules(dearer, "give 6 when people=1;give 9 when people=2;");
+        isParted(dearer, 1, 6, 3, 0);
     }
 }

@@ -36,8 +36,12 @@ public final class RulesBoundsTest extends Checks {
         faultOfAPartBy0();
         faultOfThe11thRule();
         faultOfThe9thOpen();
+        eightOpenAreReckoned();
         faultsTheFirstByPlace();
         faultsAtOnePlaceTheLeast();
+        faultsLeaveNothingBehind();
+        fullTapeAgainAndAgain();
+        fullTapeOfTokens();
         intsWrap();
         comparisonsOfInts();
         partGoesTowards0();
@@ -544,6 +548,24 @@ public final class RulesBoundsTest extends Checks {
         due("the count begins anew with each text", rules(x, "give " + deep + " when 1=1;"), 1);
     }
 
+    private static void eightOpenAreReckoned() {
+        about("the 9th ( that is open is a FAULT: the 8th is none, and counts");
+        String deepest = "1+2*(".repeat(8) + "3" + ")".repeat(8);
+        due(deepest, dueBy(deepest), 1023);
+        String inside = deepest.substring(5);
+        due("9*(" + inside, dueBy("9*(" + inside), 9 * 511);
+        due("9999-2*(" + inside, dueBy("9999-2*(" + inside), 9999 - 2 * 511);
+        isSo("1=1 and 1023=" + deepest, true);
+        isSo("1=1 and 1022=" + deepest, false);
+        isSo("1=1 and " + deepest + "=1023", true);
+        String minus = "9-(".repeat(8) + "1" + ")".repeat(8);
+        due(minus, dueBy(minus), 1);
+        NewValley x = withHouseholds(1);
+        rules(x, "give 1 when 1=2;".repeat(9) + "give " + deepest + " when " + deepest + "=1023;");
+        due("DUE by the tenth RULE", x.of(0, 5), 1023);
+        due("its number", x.of(0, 6), 9);
+    }
+
     private static void faultsTheFirstByPlace() {
         about("FAULTS, the first by its place");
         rejects("give 1/0 $", 2, 7);
@@ -571,6 +593,44 @@ public final class RulesBoundsTest extends Checks {
         rejects("give ((((((((1*(", 3, 15);
         rejects(RULE.repeat(9) + "give 1 when 1=1 give 1 when 1=1;", 1, 160);
         rejects("give 1/00000", 1, 7);
+    }
+
+    private static void faultsLeaveNothingBehind() {
+        about("Promise 13: NONE: a FAULT (they stay): the next text is read as if there had been none");
+        NewValley x = withHouseholds(1);
+        for (String text : new String[] {"give 1+", "give 1*", "give (1+2*(", "give 1/0", "give 1 when 1=1 and",
+            "give ((((((((1", "give 1 when 1-", RULE + "give 3 when 1=2;give"}) {
+            due(text, rules(x, text), -1);
+            due("rules()", rules(x, "give 9-5 when 2*3=6;"), 1);
+            due("DUE", x.of(0, 5), 4);
+            due("by RULE", x.of(0, 6), 0);
+        }
+    }
+
+    private static void fullTapeAgainAndAgain() {
+        about("Promise 13: a TAPE of 400 bytes, time and again");
+        NewValley x = withHouseholds(1);
+        String sums = "1" + "+1".repeat(191);
+        for (int i = 0; i < 9; i++) {
+            due("rules()", rules(x, "give " + sums + "+" + i + " when 1=1;"), 1);
+            due("DUE", x.of(0, 5), 192 + i);
+            due("a FAULT", rules(x, "give " + sums + "+" + i + " when 1=1$"), -1);
+            due("its place", x.fault(1), 399);
+            due("DUE", x.of(0, 5), 192 + i);
+        }
+    }
+
+    private static void fullTapeOfTokens() {
+        about("Promise 13: a TAPE of 400 bytes, each a TOKEN of its own or none");
+        for (String token : new String[] {";", "+", "-", "*", "/", "(", ")", "<", "=", ">", "$", "\u0000", "\u00ff"}) {
+            rejects(token.repeat(400), 1, 0);
+        }
+        rejects("give" + "(".repeat(396), 3, 12);
+        rejects("give1" + "-".repeat(395), 1, 6);
+        accepts(" ".repeat(400), 0);
+        accepts("\n".repeat(400), 0);
+        accepts(" ".repeat(384) + RULE, 1);
+        accepts(RULE + "\n".repeat(384), 1);
     }
 
     private static int dueBy(String sum) {
