@@ -90,6 +90,13 @@ public final class PartingsBoundsTest extends Checks {
         }
         isUnchanged(before, x);
         due("the next has the next number", x.field(1), 5);
+        NewValley all = withFields(withDues(6), 1, 2, 3);
+        for (int worth : outside(1, 999)) {
+            due("WORTH " + worth, all.field(worth), -1);
+        }
+        isParted(all, 1, 6, 7);
+        due("the next has the next number", all.field(4), 3);
+        isParted(all, 1, 6, 7);
     }
 
     private static void eleventhFieldDoesNothing() {
@@ -102,6 +109,12 @@ public final class PartingsBoundsTest extends Checks {
         due("the eleventh", x.field(10), -1);
         due("the eleventh again", x.field(999), -1);
         isUnchanged(before, x);
+        NewValley all = withFields(withDues(55), 1, 2, 3, 4, 5, 6, 7, 8, 9, 10);
+        due("the eleventh", all.field(999), -1);
+        isParted(all, 1, 55, 1023);
+        due("the eleventh again", all.field(1), -1);
+        isParted(all, 1, 55, 1023);
+        due("FIELDS", all.look(3), 10);
     }
 
     private static void servedWithAsMuchAsDue() {
