@@ -79,6 +79,34 @@ abstract class Checks {
         return x.rules();
     }
 
+    static void rejects(String text, int fault, int place) {
+        NewValley x = new NewValley();
+        due("rules() of '" + text + "'", rules(x, text), -1);
+        due("FAULT of '" + text + "'", x.fault(0), fault);
+        due("place in '" + text + "'", x.fault(1), place);
+        due("RULES of '" + text + "'", x.look(4), 0);
+    }
+
+    static void accepts(String text, int many) {
+        NewValley x = new NewValley();
+        due("rules() of '" + text + "'", rules(x, text), many);
+        due("FAULT of '" + text + "'", x.fault(0), 0);
+        due("place in '" + text + "'", x.fault(1), -1);
+        due("RULES of '" + text + "'", x.look(4), many);
+    }
+
+    static void isParted(NewValley x, int served, int worth, int... sets) {
+        due("how many are SERVED", x.part(0), Integer.bitCount(served));
+        due("WORTH given", x.part(1), worth);
+        due("who is SERVED", x.part(2), served);
+        for (int h = 0; h < sets.length; h++) {
+            due("set of " + h, x.part(10 + h), sets[h]);
+        }
+        for (int what : new int[] {-1, 3, 9, 10 + sets.length, LEAST, MOST}) {
+            due("part(" + what + ")", x.part(what), -1);
+        }
+    }
+
     static NewValley withHouseholds(int n) {
         NewValley x = new NewValley();
         for (int h = 0; h < n; h++) {

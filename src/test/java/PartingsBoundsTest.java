@@ -35,15 +35,6 @@ public final class PartingsBoundsTest extends Checks {
         return x;
     }
 
-    private static void isParted(NewValley x, int served, int worth, int... sets) {
-        due("how many are SERVED", x.part(0), Integer.bitCount(served));
-        due("WORTH given", x.part(1), worth);
-        due("who is SERVED", x.part(2), served);
-        for (int h = 0; h < sets.length; h++) {
-            due("set of " + h, x.part(10 + h), sets[h]);
-        }
-    }
-
     private static void fieldsAreNumberedAsTheyCome() {
         about("FIELDS 0 .. 9, numbered as they come");
         NewValley x = withDues(5);

@@ -273,20 +273,6 @@ public final class PromisesTest extends Checks {
         due("due", x.of(0, 5), 0);
     }
 
-    private static void rejects(String text, int fault, int place) {
-        NewValley x = new NewValley();
-        due("rules of " + text, Checks.rules(x, text), -1);
-        due("fault of " + text, x.fault(0), fault);
-        due("place of " + text, x.fault(1), place);
-    }
-
-    private static void accepts(String text, int many) {
-        NewValley x = new NewValley();
-        due("rules of " + text, Checks.rules(x, text), many);
-        due("fault of " + text, x.fault(0), 0);
-        due("place of " + text, x.fault(1), -1);
-    }
-
     private static void tokens() {
         about("Promise 13, tokens");
         accepts("give 1when 1=1and 2>1;give(land)when(1)=1;", 2);
@@ -543,18 +529,6 @@ public final class PromisesTest extends Checks {
         due("its other", y.best(11), 4);
         y.tie(0, 1, 0);
         due("of all ways the first", y.best(11), 1);
-    }
-
-    private static void isParted(NewValley x, int served, int worth, int... sets) {
-        due("how many", x.part(0), Integer.bitCount(served));
-        due("worth", x.part(1), worth);
-        due("who", x.part(2), served);
-        for (int h = 0; h < sets.length; h++) {
-            due("set of " + h, x.part(10 + h), sets[h]);
-        }
-        for (int what : new int[] {-1, 3, 9, 10 + sets.length, LEAST, MOST}) {
-            due("part(" + what + ")", x.part(what), -1);
-        }
     }
 
     private static void part() {

@@ -55,22 +55,6 @@ public final class RulesBoundsTest extends Checks {
         Checks.finish();
     }
 
-    private static void rejects(String text, int fault, int place) {
-        NewValley x = new NewValley();
-        due("rules() of '" + text + "'", rules(x, text), -1);
-        due("FAULT of '" + text + "'", x.fault(0), fault);
-        due("place in '" + text + "'", x.fault(1), place);
-        due("RULES of '" + text + "'", x.look(4), 0);
-    }
-
-    private static void accepts(String text, int many) {
-        NewValley x = new NewValley();
-        due("rules() of '" + text + "'", rules(x, text), many);
-        due("FAULT of '" + text + "'", x.fault(0), 0);
-        due("place in '" + text + "'", x.fault(1), -1);
-        due("RULES of '" + text + "'", x.look(4), many);
-    }
-
     /** Feeds twenty times the same byte. */
     private static int feedByte(NewValley x, int b) {
         int number = b << 24 | b << 16 | b << 8 | b;
